@@ -317,7 +317,6 @@ public final class BlindShelf {
         void setRoot(long first, long second) {
             writeHalf(0, first);
             writeHalf(8, second);
-            forgetWalks();
         }
 
         void setLevel(int level, long first, long second, int flags) {
@@ -325,7 +324,6 @@ public final class BlindShelf {
             writeHalf(at, first);
             writeHalf(at + 8, second);
             bytes[at + 16] = flags;
-            forgetWalks();
         }
 
         void setLast(long v) {
@@ -389,7 +387,7 @@ public final class BlindShelf {
             bits[next] = bit;
         }
 
-        private void forgetWalks() {
+        void forgetWalks() {
             Arrays.fill(bits, UNKNOWN);
             firsts[1] = readHalf(0);
             seconds[1] = readHalf(8);
@@ -436,8 +434,10 @@ public final class BlindShelf {
                 goOn(x);
             }
             long last = message ^ firsts[0] ^ firsts[1];
-            keys[0].setLast(last);
-            keys[1].setLast(last);
+            for (int k = 0; k < 2; k++) {
+                keys[k].setLast(last);
+                keys[k].forgetWalks();
+            }
         }
 
         // Both other halves go into Z; both blocks become their halves on the way.
@@ -478,7 +478,8 @@ public final class BlindShelf {
         private static final int WORDS = 44;
 
         private final int[] substitutes = new int[256];
-        // S of a byte and what COLUMNS makes of it as the first one of four, as one word.
+        // What COLUMNS makes of S of a byte as the first one of four, as one word; turned by k bytes
+        // it is that of the k-th.
         private final int[] columns = new int[256];
         private final int[][] roundKeys = new int[2][WORDS];
         long first;
