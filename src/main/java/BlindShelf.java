@@ -314,6 +314,7 @@ public final class BlindShelf {
             forgetWalks();
         }
 
+        // Making a key writes it whole by these three, and forgets the walks once behind the last.
         void setRoot(long first, long second) {
             writeHalf(0, first);
             writeHalf(8, second);
