@@ -3,58 +3,60 @@ import java.lang.management.ManagementFactory;
 
 /** All calls of a run live in one room, so calls that are not refused make no rows anew. */
 public final class RoomTest {
-    private static final int CALLS = 512;
-    // A row of 256 numbers made anew by each call would take a megabyte.
+    // A row of 256 numbers made anew by every second call would take half a megabyte.
     private static final long MOST_BYTES = 200_000;
 
     private interface Call {
-        void run(BlindShelf x, int i);
+        void on(Desk x, int n);
     }
-
-    private static int wrong = 0;
 
     public static void main(String[] args) {
-        measure("put", (x, i) -> x.put(i & 1, i & 255, i));
-        measure("close", (x, i) -> x.close(i & 1));
-        measure("makeKeys", (x, i) -> x.makeKeys(i & 255, i, i, i, i, i));
-        measure("setKeyByte and choice", (x, i) -> {
-            x.setKeyByte(0, 3, i);
-            x.choice(0, i & 255);
+        small("put", (x, n) -> x.put(n & 1, n & 255, n));
+        small("close", (x, n) -> x.close(n & 1));
+        small("makeKeys", (x, n) -> x.makeKeys(n & 255, n, n, n, n, n));
+        small("keyByte", (x, n) -> x.keyByte(n & 1, n & 127));
+        small("setKeyByte and choice", (x, n) -> {
+            x.setKeyByte(0, 3, n);
+            x.choice(0, n & 255);
         });
-        measure("setKeyByte and query", (x, i) -> {
-            x.setKeyByte(1, 3, i);
+        small("setKeyByte and query", (x, n) -> {
+            x.setKeyByte(1, 3, n);
             x.query(1, 0);
         });
-        measure("setKeyByte and deposit", (x, i) -> {
-            x.setKeyByte(0, 3, i);
+        small("setKeyByte and deposit", (x, n) -> {
+            x.setKeyByte(0, 3, n);
             x.deposit(0);
         });
-        measure("share", (x, i) -> x.share(i & 1, i & 255));
-        measure("record", (x, i) -> x.record(0, 0, i & 255));
-        measure("digest", (x, i) -> x.digest(0, 0));
-        measure("cipher", (x, i) -> x.cipher(i & 1, i, i, true));
-        measure("count", (x, i) -> x.count(0, i & 7));
-        System.out.println(wrong == 0 ? "all calls are small" : wrong + " calls are too large");
-        if (wrong != 0) {
-            System.exit(1);
-        }
+        small("setKeyByte and count", (x, n) -> {
+            x.setKeyByte(0, 3, n);
+            x.count(0, 7);
+        });
+        small("share", (x, n) -> x.share(n & 1, n & 255));
+        small("combine", (x, n) -> x.combine());
+        small("mailbox", (x, n) -> x.mailbox(2, n & 255));
+        small("record", (x, n) -> x.record(0, 0, n & 255));
+        small("digest", (x, n) -> x.digest(0, 0));
+        small("cipher", (x, n) -> x.cipher(n & 1, n, n, true));
+        small("count", (x, n) -> x.count(0, n & 7));
+        Checks.end();
     }
 
-    private static void measure(String name, Call call) {
+    private static void small(String name, Call call) {
+        Checks.test("512 calls of " + name, () -> {
+            // What is made once, when a call is run for the first time, is not the call's.
+            call.on(new Desk(), 0);
+            Desk x = new Desk();
+            long before = bytesMade();
+            for (int n = 0; x.callsLeft() > 1; n++) {
+                call.on(x, n);
+            }
+            long bytes = bytesMade() - before;
+            Checks.due("at most " + MOST_BYTES + " bytes, " + bytes + " made", bytes <= MOST_BYTES, true);
+        });
+    }
+
+    private static long bytesMade() {
         ThreadMXBean threads = (ThreadMXBean) ManagementFactory.getThreadMXBean();
-        long thread = Thread.currentThread().getId();
-        BlindShelf x = new BlindShelf();
-        for (int i = 0; i < 8; i++) {
-            call.run(new BlindShelf(), i);
-        }
-        long before = threads.getThreadAllocatedBytes(thread);
-        for (int i = 0; i < CALLS; i++) {
-            call.run(x, i);
-        }
-        long bytes = threads.getThreadAllocatedBytes(thread) - before;
-        if (bytes > MOST_BYTES) {
-            wrong++;
-            System.out.println(name + ": " + bytes + " bytes made by " + CALLS + " calls");
-        }
+        return threads.getThreadAllocatedBytes(Thread.currentThread().getId());
     }
 }
