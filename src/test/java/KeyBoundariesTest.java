@@ -503,7 +503,34 @@ public final class KeyBoundariesTest {
         });
     }
 
+    /** By the class's own cipher, from a root of 0: the first half of the last block, and its bit. */
+    private static long[] doubledDown(Desk x, int place, boolean bitTakenOut) {
+        long first = 0;
+        long second = 0;
+        long bit = 0;
+        for (int level = 7; level >= 0; level--) {
+            int half = place >> level & 1;
+            long upper = x.cipher(half, first, second, true);
+            long lower = x.cipher(half, first, second, false);
+            first ^= upper;
+            second ^= lower;
+            bit = second & 1;
+            second ^= bitTakenOut ? bit : 0;
+        }
+        return new long[] {first, bit};
+    }
+
     private static void expanding() {
+        Checks.test("DOUBLING: the bit of a half is the lowest of its last byte, which is 0 in it then", () -> {
+            for (int place : EDGES) {
+                Desk x = new Desk();
+                // A new object's Z, U and V are 0, so that a walk is nothing but doubling.
+                long[] due = doubledDown(x, place, true);
+                Checks.due("share(0, " + place + ")", x.share(0, place), due[0]);
+                Checks.due("choice(0, " + place + ")", x.choice(0, place), due[1] == 1);
+                Checks.due("share with the bits left in", x.share(0, place) != doubledDown(x, place, false)[0], true);
+            }
+        });
         Checks.test("EXPANDING: bits 0 and 1 of a level's byte are U0 and U1, in each level", () -> {
             for (int n = 0; n < 8 * 4; n++) {
                 int at = 32 + 17 * (n / 4);
