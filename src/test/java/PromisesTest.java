@@ -224,7 +224,8 @@ public final class PromisesTest {
                 long first = random.nextLong();
                 long second = random.nextLong();
                 for (int key = 0; key < 2; key++) {
-                    Checks.due("first half", x.cipher(key, first, second, true), model.cipher(key, first, second, true));
+                    Checks.due("first half", x.cipher(key, first, second, true),
+                            model.cipher(key, first, second, true));
                     Checks.due("second half", x.cipher(key, first, second, false),
                             model.cipher(key, first, second, false));
                 }
