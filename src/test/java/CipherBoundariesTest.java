@@ -48,6 +48,18 @@ public final class CipherBoundariesTest {
             sameAsTheModel(x, 0x0111213141516171L, 0x8191A1B1C1D1E1F1L);
             sameAsTheModel(x, 0x0211202F3E4D5C6BL, 0x7A8998A7B6C5D4E3L);
         });
+        Checks.test("THE CIPHER: S, ROUND KEYS, ROWS and COLUMNS by the document's own words", () -> {
+            for (int key = 0; key < 2; key++) {
+                CipherWords words = new CipherWords(key);
+                Desk x = new Desk();
+                for (long n = -8; n < 8; n++) {
+                    long first = n * 0x0123456789ABCDEFL;
+                    long second = n * 0x0FEDCBA987654321L + 1;
+                    Checks.due("first half", x.cipher(key, first, second, true), words.half(first, second, true));
+                    Checks.due("second half", x.cipher(key, first, second, false), words.half(first, second, false));
+                }
+            }
+        });
         Checks.test("15: keys that are not good do not hinder, and no call before does", () -> {
             Desk x = new Desk();
             x.setKeyByte(0, 32, 255);

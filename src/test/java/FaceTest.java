@@ -1,63 +1,72 @@
+import java.io.IOException;
 import java.lang.reflect.Constructor;
 import java.lang.reflect.Executable;
 import java.lang.reflect.Field;
+import java.lang.reflect.Member;
 import java.lang.reflect.Method;
 import java.lang.reflect.Modifier;
+import java.nio.file.Files;
+import java.nio.file.Path;
 import java.util.Arrays;
 import java.util.Set;
 import java.util.TreeSet;
 import java.util.stream.Collectors;
 
-/** The class shows the document's face and nothing else (LANGUAGE.md, rules 1 and 5). */
+/** The class shows the face that stands in the document, and nothing else (LANGUAGE.md, rule 1). */
 public final class FaceTest {
-    private static final Set<String> FACE = Set.of(
-            "BlindShelf()",
-            "static final int NONE",
-            "void put(int, int, long) throws IllegalArgumentException",
-            "int close(int) throws IllegalArgumentException",
-            "void makeKeys(int, long, long, long, long, long) throws IllegalArgumentException",
-            "int keyByte(int, int) throws IndexOutOfBoundsException",
-            "void setKeyByte(int, int, int) throws IndexOutOfBoundsException",
-            "boolean choice(int, int) throws IndexOutOfBoundsException, IllegalStateException",
-            "long share(int, int) throws IndexOutOfBoundsException, IllegalStateException",
-            "long query(int, int) throws IllegalArgumentException, IllegalStateException",
-            "long combine()",
-            "void deposit(int) throws IllegalArgumentException, IllegalStateException",
-            "long mailbox(int, int) throws IllegalArgumentException",
-            "long record(int, int, int) throws IllegalArgumentException, IllegalStateException",
-            "long digest(int, int) throws IllegalArgumentException, IllegalStateException",
-            "long cipher(int, long, long, boolean) throws IllegalArgumentException",
-            "int count(int, int)");
+    private static final Path DOCUMENT = Path.of("../shared/DOC.md");
 
-    public static void main(String[] args) {
-        Set<String> seen = new TreeSet<>();
-        boolean right = Modifier.isFinal(BlindShelf.class.getModifiers());
-        for (Constructor<?> c : BlindShelf.class.getDeclaredConstructors()) {
-            seen.add("BlindShelf" + parametersOf(c));
-        }
-        Set<String> privateNames = new TreeSet<>();
-        Set<String> publicNames = new TreeSet<>();
-        for (Method m : BlindShelf.class.getDeclaredMethods()) {
-            if (Modifier.isPrivate(m.getModifiers())) {
-                privateNames.add(m.getName());
-            } else {
-                publicNames.add(m.getName());
-                seen.add(m.getReturnType().getSimpleName() + " " + m.getName() + parametersOf(m));
+    public static void main(String[] args) throws IOException {
+        String document = Files.readString(DOCUMENT);
+        Checks.test("the class is public and final", () ->
+                Checks.due("class", Modifier.toString(BlindShelf.class.getModifiers()), "public final"));
+        Checks.test("the face", () -> {
+            Set<String> due = faceIn(document);
+            Checks.due("constants, constructors and methods of the document", due.size(), 17);
+            Checks.due("shown and not in the document", without(shown(), due), Set.of());
+            Checks.due("in the document and not shown", without(due, shown()), Set.of());
+        });
+        Checks.test("classes inside are static, and private or package-visible", () -> {
+            for (Class<?> inside : BlindShelf.class.getDeclaredClasses()) {
+                Set<String> words = Set.of(Modifier.toString(inside.getModifiers()).split(" "));
+                Checks.due(inside + " is static", words.contains("static"), true);
+                Checks.due(inside + " is visible", words.contains("public") || words.contains("protected"), false);
             }
+        });
+        Checks.end();
+    }
+
+    /** The document's lines without what a compiled class does not show: its parameters' names. */
+    private static Set<String> faceIn(String document) {
+        return document.lines().filter(line -> line.startsWith("    public "))
+                .map(line -> line.strip().replaceAll("\\b(int|long|boolean) \\w+([,)])", "$1$2").replace(";", ""))
+                .collect(Collectors.toCollection(TreeSet::new));
+    }
+
+    private static Set<String> without(Set<String> some, Set<String> others) {
+        Set<String> rest = new TreeSet<>(some);
+        rest.removeAll(others);
+        return rest;
+    }
+
+    private static Set<String> shown() {
+        Set<String> shown = new TreeSet<>();
+        for (Constructor<?> c : BlindShelf.class.getDeclaredConstructors()) {
+            addUnlessPrivate(shown, c, c.getName() + parametersOf(c));
+        }
+        for (Method m : BlindShelf.class.getDeclaredMethods()) {
+            addUnlessPrivate(shown, m, m.getReturnType() + " " + m.getName() + parametersOf(m));
         }
         for (Field f : BlindShelf.class.getDeclaredFields()) {
-            if (!Modifier.isPrivate(f.getModifiers())) {
-                seen.add("static final " + f.getType().getSimpleName() + " " + f.getName());
-                right &= Modifier.isStatic(f.getModifiers()) && Modifier.isFinal(f.getModifiers());
-            }
+            addUnlessPrivate(shown, f, f.getType() + " " + f.getName() + valueOf(f));
         }
-        right &= sameNamesAreNone(privateNames, publicNames) & staticFieldsAreFinal();
-        if (!seen.equals(new TreeSet<>(FACE))) {
-            System.out.println("the face is " + seen + ", due is " + new TreeSet<>(FACE));
-            right = false;
+        return shown;
+    }
+
+    private static void addUnlessPrivate(Set<String> shown, Member member, String text) {
+        if (!Modifier.isPrivate(member.getModifiers())) {
+            shown.add((Modifier.toString(member.getModifiers()) + " " + text).strip());
         }
-        System.out.println(right ? "the face is as due" : "the face is not as due");
-        System.exit(right ? 0 : 1);
     }
 
     private static String parametersOf(Executable e) {
@@ -69,22 +78,14 @@ public final class FaceTest {
         return Arrays.stream(types).map(Class::getSimpleName).collect(Collectors.joining(", ", before, after));
     }
 
-    private static boolean sameNamesAreNone(Set<String> privateNames, Set<String> publicNames) {
-        privateNames.retainAll(publicNames);
-        if (!privateNames.isEmpty()) {
-            System.out.println("private methods bear public names: " + privateNames);
+    private static String valueOf(Field field) {
+        if (!Modifier.isStatic(field.getModifiers()) || Modifier.isPrivate(field.getModifiers())) {
+            return "";
         }
-        return privateNames.isEmpty();
-    }
-
-    private static boolean staticFieldsAreFinal() {
-        boolean right = true;
-        for (Class<?> inside : BlindShelf.class.getDeclaredClasses()) {
-            right &= Modifier.isStatic(inside.getModifiers()) && !Modifier.isPublic(inside.getModifiers());
-            for (Field f : inside.getDeclaredFields()) {
-                right &= !Modifier.isStatic(f.getModifiers()) || Modifier.isFinal(f.getModifiers());
-            }
+        try {
+            return " = " + field.get(null);
+        } catch (IllegalAccessException e) {
+            throw new AssertionError(e);
         }
-        return right;
     }
 }
