@@ -16,8 +16,8 @@ import java.util.stream.Stream;
 import javax.tools.ToolProvider;
 
 /**
- * What README.md shows of the class's use is so: each of its examples is compiled and run as it
- * stands there, and answers as it says; its table has each call of the face with what it throws;
+ * What README.md shows of the class's use is so: each of its examples is compiled and run, with the
+ * told answers taken, and answers as it says; its table has each call of the face with what it throws;
  * its list has each test.
  */
 public final class ReadmeTest {
